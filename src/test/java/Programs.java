@@ -26,4 +26,17 @@ final class Programs {
             core.run(Math.min(100, left));
         }
     }
+
+    /** Pairs of an address and the W of the instruction there, from the next one that ends. */
+    static void ends(Due due, String what, PipelinedCore core, int... pairs) {
+        for (int i = 0; i < pairs.length; i += 2) {
+            int ended = 0;
+            for (int n = 0; n < 200 && ended == 0; n++) {
+                ended = core.run(1);
+            }
+            due.same(what + ", address of number " + i / 2, core.ended(0, 0), pairs[i]);
+            due.same(what + ", W of number " + i / 2, core.ended(0, 1), pairs[i + 1]);
+            due.same(what + ", cycle of number " + i / 2, core.figure(0), pairs[i + 1]);
+        }
+    }
 }

@@ -21,17 +21,8 @@ final class TimeTest {
         DUE.close();
     }
 
-    /** Pairs of an address and the W of the instruction there, from the first one that ends. */
     private static void ends(String what, PipelinedCore core, int... pairs) {
-        for (int i = 0; i < pairs.length; i += 2) {
-            int ended = 0;
-            for (int n = 0; n < 200 && ended == 0; n++) {
-                ended = core.run(1);
-            }
-            DUE.same(what + ", address of number " + i / 2, core.ended(0, 0), pairs[i]);
-            DUE.same(what + ", W of number " + i / 2, core.ended(0, 1), pairs[i + 1]);
-            DUE.same(what + ", cycle of number " + i / 2, core.figure(0), pairs[i + 1]);
-        }
+        Programs.ends(DUE, what, core, pairs);
     }
 
     private static void oneAfterTheOther() {
