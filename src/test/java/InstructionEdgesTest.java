@@ -86,7 +86,7 @@ final class InstructionEdgesTest {
         DUE.same("the last word's lowest byte", last.reg(2), 0x11);
     }
 
-    /** Each bit of each control register, set by f 1 and by f 2. */
+    /** Each bit of each control register, set by f 1 and by f 2; the others stay as they are. */
     private static void bitsOfControls() {
         int[] kept = {136, 2184, -1, -1, -4, -1, -1, 0};
         for (int i = 0; i < kept.length; i++) {
@@ -96,8 +96,11 @@ final class InstructionEdgesTest {
                     PipelinedCore core = Programs.around(Asm.control(f, 3, 1, number), 1 << bit, 0);
                     core.run(40);
                     String what = "bit " + bit + " of " + number + " by f " + f;
-                    DUE.same(what, core.control(number), 1 << bit & kept[i]);
                     DUE.same(what + ", rd", core.reg(3), 0);
+                    for (int each : Asm.CONTROLS) {
+                        DUE.same(what + ": " + each, core.control(each),
+                            each == number ? 1 << bit & kept[i] : 0);
+                    }
                 }
             }
         }

@@ -363,11 +363,26 @@ final class TimeEdgesTest {
         PipelinedCore core = Programs.core(1, Asm.jump(0, 4), Asm.jump(0, -4));
         ends("a loop of two", core, 0, 5, 4, 6, 0, 9, 4, 10, 0, 11, 4, 12);
         DUE.same("a loop of two: wrongly", core.figure(5), 1);
-        PipelinedCore shared = Programs.core(1, Asm.jump(0, 16), 0, 0, 0, Asm.jump(0, 4),
-            Asm.jump(0, -20));
-        ends("an entry of two", shared, 0, 5, 16, 8, 20, 9, 0, 12, 16, 15, 20, 16, 0, 17, 16, 18,
-            20, 19, 0, 20, 16, 21);
-        DUE.same("an entry of two: wrongly", shared.figure(5), 3);
+        for (int entry = 0; entry < 4; entry++) {
+            anEntryOfTwo(entry);
+        }
+    }
+
+    /** All begins as many cycles later as there are words before the one that has the entry. */
+    private static void anEntryOfTwo(int entry) {
+        PipelinedCore core = Programs.core(1, Asm.nothing(), Asm.nothing(), Asm.nothing());
+        core.code(entry, Asm.jump(0, 16));
+        core.code(entry + 4, Asm.jump(0, 4));
+        core.code(entry + 5, Asm.jump(0, -20));
+        core.run(4 + entry);
+        int[] pairs = {0, 5, 16, 8, 20, 9, 0, 12, 16, 15, 20, 16, 0, 17, 16, 18, 20, 19, 0, 20,
+            16, 21};
+        for (int i = 0; i < pairs.length; i += 2) {
+            pairs[i] += 4 * entry;
+            pairs[i + 1] += entry;
+        }
+        ends("two of entry " + entry, core, pairs);
+        DUE.same("two of entry " + entry + ": wrongly", core.figure(5), 3);
     }
 
     /** The next one is fetched after E, even if it is the one at pc + 4. */
