@@ -31,6 +31,15 @@ final class FaceTest {
             }
         }
         due.holds("the methods are " + seen, seen.equals(METHODS));
+        for (Method method : face.getDeclaredMethods()) {
+            due.fails(method + " is private with a public name",
+                Modifier.isPrivate(method.getModifiers()) && isPublicName(method.getName()));
+        }
+        for (Class<?> inside : face.getDeclaredClasses()) {
+            due.holds(inside + " is static and not seen outside",
+                (inside.getModifiers() & (Modifier.PUBLIC | Modifier.PROTECTED)) == 0
+                    && Modifier.isStatic(inside.getModifiers()));
+        }
         Constructor<?>[] constructors = face.getDeclaredConstructors();
         due.same("constructors", constructors.length, 1);
         due.holds("the constructor is public", face.getConstructor(int.class) != null);
@@ -43,6 +52,15 @@ final class FaceTest {
             (face.getField("BAD").getModifiers() & 25) == 25);
         due.same("BAD", PipelinedCore.BAD, -1);
         due.close();
+    }
+
+    private static boolean isPublicName(String name) {
+        for (Method method : PipelinedCore.class.getMethods()) {
+            if (method.getName().equals(name)) {
+                return true;
+            }
+        }
+        return false;
     }
 
     private static String signature(Method method) {

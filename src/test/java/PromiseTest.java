@@ -24,6 +24,7 @@ final class PromiseTest {
         figure();
         objectsAreApart();
         readme();
+        readmeWithInterrupt();
         DUE.close();
     }
 
@@ -395,5 +396,23 @@ final class PromiseTest {
         DUE.same("reg", core.reg(1), 7);
         DUE.same("stage", core.stage(3), 4);
         DUE.same("figure", core.figure(0), 5);
+    }
+
+    private static void readmeWithInterrupt() {
+        PipelinedCore core = new PipelinedCore(1);
+        core.data(1024, 42);
+        core.code(0, 0x01000093);
+        core.code(1, 0x30509073);
+        core.code(2, 0x30446073);
+        core.code(3, 0x30046073);
+        core.code(4, 0x40002103);
+        core.code(5, 0x0000006f);
+        core.run(40);
+        DUE.same("reg", core.reg(2), 42);
+        DUE.holds("lines", core.lines(8));
+        core.run(10);
+        DUE.same("figure", core.figure(4), 1);
+        DUE.same("address", core.control(833), 20);
+        DUE.same("cause", core.control(834), -2147483645);
     }
 }
